@@ -105,6 +105,17 @@ public final class HoursTest {
         Expect.due("brings no more", x.vehicleOf(0, 8), 0);
         ofSamePricesTheFirst();
         aPriceOfNoughtIsTaken();
+        allOffersAreTaken();
+    }
+
+    private static void allOffersAreTaken() {
+        FreightSplits x = atPlaceOne(20, 20, 1);
+        for (int i = 1; i <= 10; i++) {
+            x.offer(1, 2, 2, i, 9);
+        }
+        x.pass(3);
+        Expect.due("brings", x.vehicleOf(0, 8), 55);
+        Expect.due("gone", x.count(10), 0);
     }
 
     private static void ofSamePricesTheFirst() {

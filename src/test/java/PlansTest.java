@@ -8,6 +8,8 @@ public final class PlansTest {
         hopelessLooksAtTheWay();
         undoRestores();
         undoKeepsFourStates();
+        eachChangeIsUndone();
+        undoRestoresTripsAndStays();
         undoLeavesTheText();
         errorsAreNoChanges();
         Expect.finish();
@@ -75,6 +77,16 @@ public final class PlansTest {
         Expect.due("nothing has changed", x.count(6), 100);
         Expect.due("nothing has changed", x.count(2), 3);
         Expect.due("nothing has changed", x.consignmentOf(1, 6), 1);
+        x.set(2, 2);
+        x.consign(1, 1, 1, 50, 90, 30);
+        x.pass(3);
+        x.load(2, 0);
+        Expect.due("41 hours early, and the offer", x.wouldEarn(0), 4000000 + 30 - 2 * 41 + 20);
+        x.depart(0);
+        x.pass(6);
+        x.consign(1, 1, 1, 20, 90, 30);
+        x.load(3, 0);
+        Expect.due("what was paid ahead does not count, the last offer does", x.wouldEarn(0), 4000000 + 30 - 2 * 5 + 10);
     }
 
     private static void wouldEarnRefuses() {
@@ -171,6 +183,122 @@ public final class PlansTest {
         Expect.due("undo", x.undo(), 1);
         Expect.due("undo", x.undo(), 0);
         Expect.due("count(2)", x.count(2), 45);
+    }
+
+    private static void eachChangeIsUndone() {
+        for (int change = 0; change < 12; change++) {
+            FreightSplits x = new FreightSplits();
+            x.vehicle(50, 50);
+            x.vehicle(50, 50);
+            x.consign(1, 20, 20, 0, 90, 7);
+            x.split(0, 5, 5);
+            x.split(0, 5, 5);
+            x.load(0, 0);
+            int[] before = tell(x);
+            makeChange(x, change);
+            boolean differs = false;
+            int[] after = tell(x);
+            for (int i = 0; i < before.length; i++) {
+                differs |= before[i] != after[i];
+            }
+            Expect.holds("change " + change + " changes something", differs || change == 11);
+            Expect.due("undo of change " + change, x.undo(), 3);
+            after = tell(x);
+            for (int i = 0; i < before.length; i++) {
+                Expect.due("answer " + i + " after undo of change " + change, after[i], before[i]);
+            }
+        }
+    }
+
+    private static void makeChange(FreightSplits x, int change) {
+        switch (change) {
+            case 0 -> x.consign(2, 1, 1, 1, 1, 1);
+            case 1 -> x.split(1, 2, 2);
+            case 2 -> x.join(1, 2);
+            case 3 -> x.vehicle(9, 9);
+            case 4 -> x.load(1, 1);
+            case 5 -> x.unload(0);
+            case 6 -> x.fill(1, 1, 0);
+            case 7 -> x.depart(0);
+            case 8 -> x.offer(1, 1, 1, 1, 1);
+            case 9 -> x.pass(11);
+            case 10 -> x.set(2, 7);
+            default -> x.play();
+        }
+        Expect.due("count(11) after change " + change, x.count(11), 4);
+    }
+
+    /** What there is, but for the number of states. */
+    private static int[] tell(FreightSplits x) {
+        int[] told = new int[200];
+        int next = 0;
+        for (int what = 0; what <= 22; what++) {
+            told[next++] = what == 11 ? 0 : x.count(what);
+        }
+        for (int i = 0; i < 5; i++) {
+            for (int what = 0; what <= 10; what++) {
+                told[next++] = x.consignmentOf(i, what);
+            }
+        }
+        for (int i = 0; i < 3; i++) {
+            for (int what = 0; what <= 9; what++) {
+                told[next++] = x.vehicleOf(i, what);
+            }
+        }
+        for (int what = 0; what <= 4; what++) {
+            told[next++] = x.offerOf(0, what);
+        }
+        return told;
+    }
+
+    private static void undoRestoresTripsAndStays() {
+        FreightSplits x = new FreightSplits();
+        x.pass(2);
+        x.consign(2, 10, 10, 0, 90, 7);
+        x.vehicle(20, 20);
+        x.load(0, 0);
+        x.pass(3);
+        x.depart(0);
+        x.pass(12);
+        x.consign(1, 10, 10, 0, 90, 7);
+        x.load(1, 0);
+        x.set(0, 9);
+        x.depart(0);
+        Expect.due("on the way", x.vehicleOf(0, 7), 26);
+        for (int left = 3; left >= 0; left--) {
+            Expect.due("undo", x.undo(), left);
+        }
+        Expect.due("at the hour", x.count(2), 17);
+        x.undo();
+        Expect.due("hours in the hall", x.consignmentOf(0, 10), 3);
+        for (int i = 0; i < 3; i++) {
+            x.pass(1);
+        }
+        x.undo();
+        Expect.due("hours in the hall", x.consignmentOf(0, 10), 3);
+        Expect.due("trips", x.vehicleOf(0, 9), 1);
+        undoOnTheWay();
+    }
+
+    private static void undoOnTheWay() {
+        FreightSplits x = new FreightSplits();
+        x.vehicle(20, 20);
+        x.consign(2, 10, 10, 0, 90, 7);
+        x.consign(1, 10, 10, 0, 90, 7);
+        x.load(0, 0);
+        x.pass(4);
+        x.depart(0);
+        x.pass(12);
+        x.load(1, 0);
+        x.depart(0);
+        Expect.due("undo", x.undo(), 3);
+        Expect.due("undo", x.undo(), 2);
+        Expect.due("undo to the way there", x.undo(), 1);
+        Expect.due("its place", x.vehicleOf(0, 6), 2);
+        Expect.due("left after", x.consignmentOf(0, 10), 4);
+        Expect.due("pass(6)", x.pass(6), 1);
+        Expect.due("back at", x.vehicleOf(0, 7), 16);
+        Expect.due("its place", x.vehicleOf(0, 6), 2);
     }
 
     private static void undoLeavesTheText() {

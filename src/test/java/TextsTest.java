@@ -13,6 +13,7 @@ public final class TextsTest {
         playDoesAllCommands();
         playIsOneChange();
         aWholeTextOfEightyCharacters();
+        playLooksAtSinceWhen();
         Expect.finish();
     }
 
@@ -134,6 +135,9 @@ public final class TextsTest {
         Expect.fault(x, "pass 1;;", 7, 1);
         Expect.fault(x, "fill 0 1 0;go 0;pass 6;go 0;pass 0;", 23, 3);
         Expect.fault(x, "split 0 2 2;join 0 2;join 0 2;", 21, 2);
+        x.clearText();
+        Expect.due("an empty text has none", x.fault(0), Expect.NOT_FOUND);
+        Expect.due("an empty text plays", x.play(), 0);
     }
 
     private static void faultChangesNothing() {
@@ -210,5 +214,22 @@ public final class TextsTest {
         Expect.due("count(12)", x.count(12), 80);
         Expect.due("play()", x.play(), 11);
         Expect.due("count(2)", x.count(2), 174);
+    }
+
+    private static void playLooksAtSinceWhen() {
+        FreightSplits x = new FreightSplits();
+        x.pass(5);
+        x.consign(1, 10, 10, 0, 99, 9);
+        x.consign(1, 10, 10, 0, 99, 9);
+        x.vehicle(20, 20);
+        x.pass(2);
+        Expect.noFault(x, "split 0 1 1;load 1 0;pass 3;go 0;pass 4;");
+        Expect.due("play()", x.play(), 5);
+        Expect.due("hours of a part", x.consignmentOf(2, 10), 9);
+        Expect.due("hours until it departed", x.consignmentOf(1, 10), 5);
+        Expect.due("one hour's fee for two", x.count(8), 2);
+        Expect.due("delivered at", x.consignmentOf(1, 8), 13);
+        x.undo();
+        Expect.due("hours", x.consignmentOf(1, 10), 2);
     }
 }
