@@ -72,6 +72,30 @@ abstract class Cases {
         Expect.holds(running + what + " " + difference, difference.isEmpty());
     }
 
+    static void isConsignment(FreightSplits x, int number, int... values) {
+        for (int what = 0; what < values.length; what++) {
+            due("consignmentOf(" + number + ", " + what + ")", x.consignmentOf(number, what), values[what]);
+        }
+    }
+
+    static void isVehicle(FreightSplits x, int number, int... values) {
+        for (int what = 0; what < values.length; what++) {
+            due("vehicleOf(" + number + ", " + what + ")", x.vehicleOf(number, what), values[what]);
+        }
+    }
+
+    static void isOffer(FreightSplits x, int index, int... values) {
+        for (int what = 0; what < values.length; what++) {
+            due("offerOf(" + index + ", " + what + ")", x.offerOf(index, what), values[what]);
+        }
+    }
+
+    static void countsAre(FreightSplits x, int... values) {
+        for (int what = 0; what < values.length; what++) {
+            due("count(" + what + ")", x.count(what), values[what]);
+        }
+    }
+
     /** A call that answers and changes nothing: not now, nor in any state before, nor later on. */
     static void unchanging(Supplier<FreightSplits> hall, Call call, int answer) {
         for (int undone = 0; undone <= MOST_STATES; undone++) {

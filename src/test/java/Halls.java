@@ -122,6 +122,21 @@ final class Halls {
         return x;
     }
 
+    /** So many consignments in the hall, each of size and weight 5 for place 1. */
+    static FreightSplits made(int consignments) {
+        FreightSplits x = new FreightSplits();
+        for (int i = 0; i < consignments; i++) {
+            x.consign(1, 5, 5, 0, 9, 3);
+        }
+        return x;
+    }
+
+    static FreightSplits retyped(FreightSplits x, String text) {
+        x.clearText();
+        Expect.typed(x, text);
+        return x;
+    }
+
     static FreightSplits typed(String text) {
         FreightSplits x = new FreightSplits();
         Expect.typed(x, text);

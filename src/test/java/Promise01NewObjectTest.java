@@ -81,6 +81,14 @@ public final class Promise01NewObjectTest extends Cases {
         due("the other's time", y.count(2), 12);
     }
 
+    static void promise1ItIsUsedForFiveHundredAndTwelveCalls() {
+        FreightSplits x = new FreightSplits();
+        for (int i = 1; i <= 511; i++) {
+            due("call " + i, x.pass(1), 0);
+        }
+        due("the last call", x.count(2), 511);
+    }
+
     static void promise1CallsOnWhatIsNotThereAreRefused() {
         unchanging(Halls::empty, x -> x.split(0, 1, 1), INVALID);
         unchanging(Halls::empty, x -> x.join(0, 1), INVALID);

@@ -62,19 +62,19 @@ public final class Promise02ConsignTest extends Cases {
     static void promise2LeastValuesStandAsGiven() {
         FreightSplits x = new FreightSplits();
         due("consign", x.consign(1, 1, 1, 0, 0, 0), 0);
-        isFreight(x, 0, 1, 1, 1, 0, 0, 0, 0, NOT_FOUND, NOT_FOUND, 0b1, 0);
+        isConsignment(x, 0, 1, 1, 1, 0, 0, 0, 0, NOT_FOUND, NOT_FOUND, 0b1, 0);
     }
 
     static void promise2MostValuesStandAsGiven() {
         FreightSplits x = new FreightSplits();
         due("consign", x.consign(4, 99, 98, 9998, 9999, 999), 0);
-        isFreight(x, 0, 4, 99, 98, 9998, 9999, 999, 0, NOT_FOUND, NOT_FOUND, 0b1, 0);
+        isConsignment(x, 0, 4, 99, 98, 9998, 9999, 999, 0, NOT_FOUND, NOT_FOUND, 0b1, 0);
     }
 
     static void promise2HoursGoneByAreAllowed() {
         FreightSplits x = Halls.at(150);
         due("consign", x.consign(2, 3, 4, 0, 149, 6), 0);
-        isFreight(x, 0, 2, 3, 4, 0, 149, 6, 0, NOT_FOUND, NOT_FOUND, 0b1, 0);
+        isConsignment(x, 0, 2, 3, 4, 0, 149, 6, 0, NOT_FOUND, NOT_FOUND, 0b1, 0);
     }
 
     static void promise2AtTheLastHourItIsInTheHallSinceThen() {
@@ -94,20 +94,20 @@ public final class Promise02ConsignTest extends Cases {
     }
 
     static void promise2TheSixteenthIsTheLast() {
-        change(() -> made(15), x -> x.consign(1, 5, 5, 1, 2, 3), 15);
-        unchanging(() -> made(16), x -> x.consign(1, 5, 5, 1, 2, 3), LIMIT);
+        change(() -> Halls.made(15), x -> x.consign(1, 5, 5, 1, 2, 3), 15);
+        unchanging(() -> Halls.made(16), x -> x.consign(1, 5, 5, 1, 2, 3), LIMIT);
         unchanging(Halls::full, x -> x.consign(1, 5, 5, 1, 2, 3), LIMIT);
     }
 
     static void promise2SplitOnesCountForTheLimit() {
-        FreightSplits x = made(14);
+        FreightSplits x = Halls.made(14);
         due("split", x.split(0, 1, 1), 14);
         due("split", x.split(13, 1, 1), 15);
         due("consign", x.consign(1, 5, 5, 1, 2, 3), LIMIT);
     }
 
     static void promise2GoneOnesCountForTheLimit() {
-        FreightSplits x = made(15);
+        FreightSplits x = Halls.made(15);
         x.split(0, 1, 1);
         due("join", x.join(0, 15), 0);
         due("consign", x.consign(1, 5, 5, 1, 2, 3), LIMIT);
@@ -115,7 +115,7 @@ public final class Promise02ConsignTest extends Cases {
     }
 
     static void promise2DeliveredOnesCountForTheLimit() {
-        FreightSplits x = made(16);
+        FreightSplits x = Halls.made(16);
         x.vehicle(200, 200);
         due("fill", x.fill(0, 1, 0), 16);
         x.depart(0);
@@ -144,24 +144,10 @@ public final class Promise02ConsignTest extends Cases {
     }
 
     static void promise2UndoGivesTheNumberBack() {
-        FreightSplits x = made(16);
+        FreightSplits x = Halls.made(16);
         due("undo", x.undo(), 3);
         due("made", x.count(0), 15);
         due("consign", x.consign(4, 5, 5, 1, 2, 3), 15);
         due("its place", x.consignmentOf(15, 0), 4);
-    }
-
-    private static FreightSplits made(int consignments) {
-        FreightSplits x = new FreightSplits();
-        for (int i = 0; i < consignments; i++) {
-            due("consign", x.consign(1, 5, 5, 0, 9, 3), i);
-        }
-        return x;
-    }
-
-    private static void isFreight(FreightSplits x, int number, int... values) {
-        for (int what = 0; what < values.length; what++) {
-            due("consignmentOf(" + number + ", " + what + ")", x.consignmentOf(number, what), values[what]);
-        }
     }
 }

@@ -114,22 +114,14 @@ public final class Promise03SplitTest extends Cases {
         due("split", x.split(Halls.LOADED, 1, 1), 8);
     }
 
-    private static FreightSplits made(int consignments) {
-        FreightSplits x = new FreightSplits();
-        for (int i = 0; i < consignments; i++) {
-            x.consign(1, 5, 5, 0, 9, 3);
-        }
-        return x;
-    }
-
     static void promise3TheSixteenthIsTheLast() {
-        change(() -> made(15), x -> x.split(14, 4, 4), 15);
-        unchanging(() -> made(16), x -> x.split(15, 4, 4), LIMIT);
+        change(() -> Halls.made(15), x -> x.split(14, 4, 4), 15);
+        unchanging(() -> Halls.made(16), x -> x.split(15, 4, 4), LIMIT);
         unchanging(Halls::full, x -> x.split(0, 1, 1), LIMIT);
     }
 
     static void promise3GoneOnesCountForTheLimit() {
-        FreightSplits x = made(15);
+        FreightSplits x = Halls.made(15);
         due("split", x.split(3, 1, 1), 15);
         due("join", x.join(3, 15), 3);
         due("split", x.split(3, 1, 1), LIMIT);
@@ -189,12 +181,8 @@ public final class Promise03SplitTest extends Cases {
         FreightSplits x = ofTenAndEight();
         x.pass(7);
         due("split", x.split(0, 4, 3), 1);
-        int[] part = {3, 4, 3, 4, 50, 39, 0, NOT_FOUND, NOT_FOUND, 0b11, 7};
-        int[] rest = {3, 6, 5, 4, 50, 60, 0, NOT_FOUND, NOT_FOUND, 0b11, 7};
-        for (int what = 0; what <= 10; what++) {
-            due("the part's " + what, x.consignmentOf(1, what), part[what]);
-            due("the rest's " + what, x.consignmentOf(0, what), rest[what]);
-        }
+        isConsignment(x, 1, 3, 4, 3, 4, 50, 39, 0, NOT_FOUND, NOT_FOUND, 0b11, 7);
+        isConsignment(x, 0, 3, 6, 5, 4, 50, 60, 0, NOT_FOUND, NOT_FOUND, 0b11, 7);
     }
 
     static void promise3ThePartWasInNoVehicle() {

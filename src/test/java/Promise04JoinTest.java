@@ -136,12 +136,8 @@ public final class Promise04JoinTest extends Cases {
     static void promise4SizesWeightsAndWorthsComeTogether() {
         FreightSplits x = threeParts();
         due("join", x.join(2, 1), 1);
-        int[] joined = {3, 7, 13, 4, 50, 69, 0, NOT_FOUND, NOT_FOUND, 0b11, 0};
-        int[] rest = {3, 3, 7, 4, 50, 30, 0, NOT_FOUND, NOT_FOUND, 0b11, 0};
-        for (int what = 0; what <= 10; what++) {
-            due("the joined one's " + what, x.consignmentOf(1, what), joined[what]);
-            due("the rest's " + what, x.consignmentOf(0, what), rest[what]);
-        }
+        isConsignment(x, 1, 3, 7, 13, 4, 50, 69, 0, NOT_FOUND, NOT_FOUND, 0b11, 0);
+        isConsignment(x, 0, 3, 3, 7, 4, 50, 30, 0, NOT_FOUND, NOT_FOUND, 0b11, 0);
     }
 
     static void promise4OfSizeAndWorthAtTheMost() {

@@ -55,10 +55,7 @@ public final class Promise05VehicleTest extends Cases {
     }
 
     private static void isNew(FreightSplits x, int number, int room, int weight) {
-        int[] values = {room, weight, 0, 0, 0, 0, NOT_FOUND, NOT_FOUND, 0, 0};
-        for (int what = 0; what <= 9; what++) {
-            due("vehicleOf(" + number + ", " + what + ")", x.vehicleOf(number, what), values[what]);
-        }
+        isVehicle(x, number, room, weight, 0, 0, 0, 0, NOT_FOUND, NOT_FOUND, 0, 0);
     }
 
     static void promise5ItIsInTheHallWithoutALoad() {

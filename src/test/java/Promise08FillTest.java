@@ -135,6 +135,19 @@ public final class Promise08FillTest extends Cases {
         due("its load", x.vehicleOf(0, 5), 0b101);
     }
 
+    static void promise8SomeThatAreTooGreatArePassedOver() {
+        FreightSplits x = new FreightSplits();
+        x.vehicle(10, 200);
+        for (int i = 0; i < 15; i++) {
+            x.consign(1, 11 + i, 1, 0, 20 - i, 50 + i);
+        }
+        x.consign(1, 10, 1, 0, 99, 1);
+        for (int rule = 0; rule <= 2; rule++) {
+            due("the last by rule " + rule, x.wouldFill(0, 1, rule), 0x8000);
+        }
+        due("fill", x.fill(0, 1, 0), 1);
+    }
+
     static void promise8OneThatIsTooHeavyIsPassedOver() {
         FreightSplits x = new FreightSplits();
         x.vehicle(200, 10);

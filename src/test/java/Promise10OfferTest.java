@@ -84,12 +84,6 @@ public final class Promise10OfferTest extends Cases {
         unchanging(Halls::full, x -> x.offer(1, 5, 6, 7, 100), INVALID);
     }
 
-    private static void isOffer(FreightSplits x, int index, int... values) {
-        for (int what = 0; what < values.length; what++) {
-            due("offerOf(" + index + ", " + what + ")", x.offerOf(index, what), values[what]);
-        }
-    }
-
     static void promise10LeastAndMostValuesStandAsGiven() {
         FreightSplits x = new FreightSplits();
         x.offer(1, 1, 1, 0, 0);

@@ -31,47 +31,41 @@ public final class Promise14VehicleOfTest extends Cases {
         unchanging(Halls::atTheEnd, x -> x.vehicleOf(2, 7), INVALID);
     }
 
-    private static void is(FreightSplits x, int vehicle, int... values) {
-        for (int what = 0; what < values.length; what++) {
-            due("vehicleOf(" + vehicle + ", " + what + ")", x.vehicleOf(vehicle, what), values[what]);
-        }
-    }
-
     static void promise14InTheHallWithoutALoad() {
-        is(Halls.busy(), Halls.WITHOUT, 20, 20, 0, 0, 0, 0, NOT_FOUND, NOT_FOUND, 0, 0);
+        isVehicle(Halls.busy(), Halls.WITHOUT, 20, 20, 0, 0, 0, 0, NOT_FOUND, NOT_FOUND, 0, 0);
     }
 
     static void promise14InTheHallWithALoad() {
-        is(Halls.busy(), Halls.WITH_LOAD, 20, 20, 0, 5, 5, 0b10, 1, NOT_FOUND, 0, 0);
+        isVehicle(Halls.busy(), Halls.WITH_LOAD, 20, 20, 0, 5, 5, 0b10, 1, NOT_FOUND, 0, 0);
     }
 
     static void promise14OnTheWayThere() {
-        is(Halls.busy(), Halls.THERE, 20, 20, 1, 5, 5, 0b100, 1, 5, 0, 0);
+        isVehicle(Halls.busy(), Halls.THERE, 20, 20, 1, 5, 5, 0b100, 1, 5, 0, 0);
     }
 
     static void promise14OnTheWayBack() {
-        is(Halls.busy(), Halls.BACK, 20, 20, 2, 0, 0, 0, 1, 6, 12, 0);
+        isVehicle(Halls.busy(), Halls.BACK, 20, 20, 2, 0, 0, 0, 1, 6, 12, 0);
     }
 
     static void promise14BackAgain() {
         FreightSplits x = Halls.busy();
         x.pass(3);
-        is(x, Halls.BACK, 20, 20, 0, 0, 0, 0, NOT_FOUND, NOT_FOUND, 0, 1);
+        isVehicle(x, Halls.BACK, 20, 20, 0, 0, 0, 0, NOT_FOUND, NOT_FOUND, 0, 1);
     }
 
     static void promise14LoadedForTheNextTrip() {
         FreightSplits x = Halls.busy();
         x.pass(3);
         x.load(Halls.OTHER, Halls.BACK);
-        is(x, Halls.BACK, 20, 20, 0, 9, 9, 0b10000000, 2, NOT_FOUND, 0, 1);
+        isVehicle(x, Halls.BACK, 20, 20, 0, 9, 9, 0b10000000, 2, NOT_FOUND, 0, 1);
         x.depart(Halls.BACK);
-        is(x, Halls.BACK, 20, 20, 1, 9, 9, 0b10000000, 2, 12, 0, 1);
+        isVehicle(x, Halls.BACK, 20, 20, 1, 9, 9, 0b10000000, 2, 12, 0, 1);
     }
 
     static void promise14AFullVehicle() {
         FreightSplits x = Halls.fullyLoaded();
         for (int i = 0; i < 4; i++) {
-            is(x, i, 40, 20, 0, 40, 20, 0xf << 4 * i, i + 1, NOT_FOUND, 0, 0);
+            isVehicle(x, i, 40, 20, 0, 40, 20, 0xf << 4 * i, i + 1, NOT_FOUND, 0, 0);
         }
     }
 
@@ -79,8 +73,8 @@ public final class Promise14VehicleOfTest extends Cases {
         FreightSplits x = new FreightSplits();
         x.vehicle(1, 200);
         x.vehicle(200, 1);
-        is(x, 0, 1, 200);
-        is(x, 1, 200, 1);
+        isVehicle(x, 0, 1, 200);
+        isVehicle(x, 1, 200, 1);
     }
 
     static void promise14SizeAndWeightAreToldApart() {
@@ -89,12 +83,12 @@ public final class Promise14VehicleOfTest extends Cases {
         x.consign(2, 3, 11, 0, 9, 1);
         x.consign(2, 4, 17, 0, 9, 1);
         x.fill(0, 2, 0);
-        is(x, 0, 30, 40, 0, 7, 28, 0b11, 2, NOT_FOUND, 0, 0);
+        isVehicle(x, 0, 30, 40, 0, 7, 28, 0b11, 2, NOT_FOUND, 0, 0);
     }
 
     static void promise14TheHourOfArrivingBeyondTheLastOne() {
         FreightSplits x = Halls.atTheEnd();
-        is(x, 1, 20, 20, 1, 5, 5, 0b1, 2, 9005, 0, 0);
+        isVehicle(x, 1, 20, 20, 1, 5, 5, 0b1, 2, 9005, 0, 0);
     }
 
     static void promise14TripsAreCountedOnceTheyEnded() {

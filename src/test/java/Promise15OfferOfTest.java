@@ -55,10 +55,7 @@ public final class Promise15OfferOfTest extends Cases {
             x.offer(1 + i % 4, 99 - i, 50 + i, 5 * i, 10 + i);
         }
         for (int i = 0; i < 10; i++) {
-            int[] values = {1 + i % 4, 99 - i, 50 + i, 5 * i, 10 + i};
-            for (int what = 0; what <= 4; what++) {
-                due("offerOf(" + i + ", " + what + ")", x.offerOf(i, what), values[what]);
-            }
+            isOffer(x, i, 1 + i % 4, 99 - i, 50 + i, 5 * i, 10 + i);
         }
     }
 

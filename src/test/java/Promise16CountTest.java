@@ -26,18 +26,12 @@ public final class Promise16CountTest extends Cases {
         }
     }
 
-    private static void are(FreightSplits x, int... values) {
-        for (int what = 0; what < values.length; what++) {
-            due("count(" + what + ")", x.count(what), values[what]);
-        }
-    }
-
     static void promise16AnEmptyHall() {
-        are(Halls.empty(), 0, 0, 0, 0, 0, 0, 0, 0, 0, 0, 0, 0, 0);
+        countsAre(Halls.empty(), 0, 0, 0, 0, 0, 0, 0, 0, 0, 0, 0, 0, 0);
     }
 
     static void promise16AFullHall() {
-        are(Halls.full(), 16, 4, 0, 0xffff, 0, 0, 0, 0, 0, 0, 10, 4, 80);
+        countsAre(Halls.full(), 16, 4, 0, 0xffff, 0, 0, 0, 0, 0, 0, 10, 4, 80);
     }
 
     static void promise16AllLoaded() {
@@ -50,7 +44,7 @@ public final class Promise16CountTest extends Cases {
             x.depart(i);
         }
         x.pass(24);
-        are(x, 16, 4, 24, 0, 16, 0, 120, 844, 0, 0, 2, 4, 80);
+        countsAre(x, 16, 4, 24, 0, 16, 0, 120, 844, 0, 0, 2, 4, 80);
     }
 
     static void promise16AllLost() {
@@ -60,16 +54,16 @@ public final class Promise16CountTest extends Cases {
             x.depart(i);
         }
         x.pass(24);
-        are(x, 16, 4, 64, 0, 0, 16, 0, 844, 16 * 32, 0, 2, 4, 80);
+        countsAre(x, 16, 4, 64, 0, 0, 16, 0, 844, 16 * 32, 0, 2, 4, 80);
     }
 
     static void promise16SomethingOfEverything() {
         FreightSplits x = Halls.busy();
-        are(x, 8, 4, 3, 0b11000011, 1, 1, 17, 0, 0, 0, 2, 4, 12);
+        countsAre(x, 8, 4, 3, 0b11000011, 1, 1, 17, 0, 0, 0, 2, 4, 12);
         x.pass(3);
-        are(x, 8, 4, 6, 0b11000011, 2, 1, 33, 12, 0, 0, 0, 4, 12);
+        countsAre(x, 8, 4, 6, 0b11000011, 2, 1, 33, 12, 0, 0, 0, 4, 12);
         x.pass(3);
-        are(x, 8, 4, 9, 0b11000011, 2, 1, 33, 42, 4, 0, 0, 4, 12);
+        countsAre(x, 8, 4, 9, 0b11000011, 2, 1, 33, 42, 4, 0, 0, 4, 12);
     }
 
     static void promise16ConsignmentsMadeBySplittingAndGone() {

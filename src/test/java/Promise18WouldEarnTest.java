@@ -181,6 +181,17 @@ public final class Promise18WouldEarnTest extends Cases {
         due("40 for what it brings now", x.wouldEarn(Halls.BACK), BASE + 40);
     }
 
+    static void promise18WhatWasEarnedAndPaidUpToNowDoesNotCount() {
+        FreightSplits x = loaded(9, 9, 50);
+        x.depart(0);
+        x.pass(6);
+        due("paid for being early", x.count(9), 6);
+        due("earned", x.count(6), 50);
+        x.consign(1, 5, 5, 13, 20, 7);
+        x.load(1, 0);
+        due("7, less 4", x.wouldEarn(0), BASE + 3);
+    }
+
     static void promise18FeesForStayingDoNotCount() {
         FreightSplits x = loaded(0, 99, 7);
         x.pass(50);

@@ -3,6 +3,8 @@ public final class Promise23FaultTest extends Cases {
     // A command of each form, none of which is refused in the hall of ready().
     private static final String[] RIGHT = {"load 0 0;", "fill 0 1 2;", "go 1;", "split 0 1 1;",
         "join 0 1;", "offer 1 1 1 1 1;", "pass 1;"};
+    private static final int[] CONSIGNMENTS = {0, 1, 2, 3, 4, 5, 6, 7, 8, 15, 16, 999};
+    private static final int[] VEHICLES = {0, 1, 2, 3, 4, 999};
 
     public static void main(String[] args) {
         run(Promise23FaultTest.class, 23);
@@ -100,6 +102,42 @@ public final class Promise23FaultTest extends Cases {
                 }
             }
         }
+    }
+
+    static void promise23EachCommandWithOneCharacterChanged() {
+        for (String right : RIGHT) {
+            for (int i = 0; i < right.length(); i++) {
+                for (char other : new char[] {(char) (right.charAt(i) + 1), 'x', '~', '!'}) {
+                    boolean isDigit = other >= '0' && other <= '9';
+                    if (!isDigit) {
+                        noForm(right.substring(0, i) + other + right.substring(i + 1));
+                    }
+                }
+            }
+        }
+    }
+
+    static void promise23EachCommandWithANumberOfNoDigits() {
+        for (String right : RIGHT) {
+            for (int i = 0; i < right.length(); i++) {
+                boolean isDigit = right.charAt(i) >= '0' && right.charAt(i) <= '9';
+                if (isDigit) {
+                    noForm(right.substring(0, i) + right.substring(i + 1));
+                }
+            }
+        }
+    }
+
+    static void promise23AnotherWordWithTheNumbersOfACommand() {
+        noForm("lord 0 0;");
+        noForm("full 0 1 2;");
+        noForm("no 1;");
+        noForm("spill 0 1 1;");
+        noForm("coin 0 1;");
+        noForm("often 1 1 1 1 1;");
+        noForm("past 1;");
+        noForm(" 1;");
+        noForm(" 0 0;");
     }
 
     static void promise23EachCommandWithABlankTooMany() {
@@ -350,15 +388,80 @@ public final class Promise23FaultTest extends Cases {
         due("up to the last hour", x.fault(0), NOT_FOUND);
     }
 
-    static void promise23WhatTheCallWouldReturn() {
-        for (String command : new String[] {"0 0", "0 3", "0 4", "1 1", "2 1", "3 1", "4 1", "5 1", "6 0",
-            "7 0", "7 1", "8 0", "8 4"}) {
-            FreightSplits x = Halls.busy();
-            x.clearText();
-            Expect.typed(x, "load " + command + ";");
-            int reason = x.fault(1);
-            int answer = x.load(command.charAt(0) - '0', command.charAt(2) - '0');
-            due("load " + command, reason, answer >= 0 ? NOT_FOUND : answer == INVALID ? 2 : 3);
+    /** Looks at the reason for a command by what the call itself returns. */
+    private static void asTheCall(FreightSplits x, String command) {
+        Halls.retyped(x, command + ";");
+        int reason = x.fault(1);
+        int position = x.fault(0);
+        int answer = called(x, command.split(" "));
+        int due = answer >= 0 ? NOT_FOUND : answer == INVALID ? 2 : 3;
+        due("reason for " + command, reason, due);
+        due("position of " + command, position, answer >= 0 ? NOT_FOUND : 0);
+    }
+
+    private static int called(FreightSplits x, String[] words) {
+        int[] n = new int[words.length];
+        for (int i = 1; i < words.length; i++) {
+            n[i] = Integer.parseInt(words[i]);
+        }
+        return switch (words[0]) {
+            case "load" -> x.load(n[1], n[2]);
+            case "fill" -> x.fill(n[1], n[2], n[3]);
+            case "go" -> x.depart(n[1]);
+            case "split" -> x.split(n[1], n[2], n[3]);
+            case "join" -> x.join(n[1], n[2]);
+            case "offer" -> x.offer(n[1], n[2], n[3], n[4], n[5]);
+            default -> x.pass(n[1]);
+        };
+    }
+
+    private static void eachAsTheCall(String word, int[]... numbers) {
+        int all = 1;
+        for (int[] row : numbers) {
+            all *= row.length;
+        }
+        for (int i = 0; i < all; i++) {
+            StringBuilder command = new StringBuilder(word);
+            int left = i;
+            for (int[] row : numbers) {
+                command.append(' ').append(row[left % row.length]);
+                left /= row.length;
+            }
+            asTheCall(Halls.busy(), command.toString());
+            asTheCall(Halls.full(), command.toString());
+            asTheCall(Halls.fullyLoaded(), command.toString());
+        }
+    }
+
+    static void promise23LoadIsAsTheCall() {
+        eachAsTheCall("load", CONSIGNMENTS, VEHICLES);
+    }
+
+    static void promise23FillIsAsTheCall() {
+        eachAsTheCall("fill", VEHICLES, new int[] {0, 1, 2, 4, 5}, new int[] {0, 2, 3});
+    }
+
+    static void promise23GoIsAsTheCall() {
+        eachAsTheCall("go", VEHICLES);
+    }
+
+    static void promise23SplitIsAsTheCall() {
+        eachAsTheCall("split", CONSIGNMENTS, new int[] {0, 1, 4, 5, 9, 10}, new int[] {0, 1, 4, 5, 9, 10});
+    }
+
+    static void promise23JoinIsAsTheCall() {
+        eachAsTheCall("join", CONSIGNMENTS, CONSIGNMENTS);
+    }
+
+    static void promise23OfferIsAsTheCall() {
+        eachAsTheCall("offer", new int[] {0, 1, 4, 5}, new int[] {0, 1, 99, 100}, new int[] {0, 1, 99, 100},
+                new int[] {0, 999}, new int[] {0, 99, 100});
+    }
+
+    static void promise23PassIsAsTheCall() {
+        eachAsTheCall("pass", new int[] {0, 1, 99, 100, 999});
+        for (int hours : new int[] {0, 1, 10, 11, 99, 100}) {
+            asTheCall(Halls.at(8990), "pass " + hours);
         }
     }
 
@@ -407,13 +510,8 @@ public final class Promise23FaultTest extends Cases {
     }
 
     static void promise23ItChangesNothing() {
-        unchanging(() -> typedInto(Halls.busy(), "pass 9;go 1;"), x -> x.fault(0), 7 + 12);
-        unchanging(() -> typedInto(Halls.busy(), "pass 9;go 1;"), x -> x.fault(1), 3);
-    }
-
-    private static FreightSplits typedInto(FreightSplits x, String text) {
-        Expect.typed(x, text);
-        return x;
+        unchanging(() -> Halls.retyped(Halls.busy(), "pass 9;go 1;"), x -> x.fault(0), 7);
+        unchanging(() -> Halls.retyped(Halls.busy(), "pass 9;go 1;"), x -> x.fault(1), 3);
     }
 
     static void promise23ItIsOfTheStateOfNow() {

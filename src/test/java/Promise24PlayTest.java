@@ -4,14 +4,8 @@ public final class Promise24PlayTest extends Cases {
         run(Promise24PlayTest.class, 24);
     }
 
-    private static FreightSplits typedInto(FreightSplits x, String text) {
-        x.clearText();
-        Expect.typed(x, text);
-        return x;
-    }
-
     private static void refused(String text) {
-        unchanging(() -> typedInto(Halls.busy(), text), x -> x.play(), NOT_POSSIBLE);
+        unchanging(() -> Halls.retyped(Halls.busy(), text), x -> x.play(), NOT_POSSIBLE);
     }
 
     static void promise24AFaultOfForm() {
@@ -34,8 +28,9 @@ public final class Promise24PlayTest extends Cases {
     }
 
     static void promise24ALimitThatIsReachedOnTheWay() {
-        unchanging(() -> typedInto(Halls.atTheEnd(), "load 1 0;go 0;pass 1;"), x -> x.play(), NOT_POSSIBLE);
-        unchanging(() -> typedInto(Halls.full(), "pass 1;split 0 1 1;"), x -> x.play(), NOT_POSSIBLE);
+        unchanging(() -> Halls.retyped(Halls.atTheEnd(), "load 1 0;go 0;pass 1;"), x -> x.play(),
+                NOT_POSSIBLE);
+        unchanging(() -> Halls.retyped(Halls.full(), "pass 1;split 0 1 1;"), x -> x.play(), NOT_POSSIBLE);
     }
 
     static void promise24NoCommands() {
@@ -52,12 +47,12 @@ public final class Promise24PlayTest extends Cases {
     }
 
     static void promise24OneCommand() {
-        change(() -> typedInto(Halls.busy(), "pass 2;"), x -> x.play(), 1);
+        change(() -> Halls.retyped(Halls.busy(), "pass 2;"), x -> x.play(), 1);
     }
 
     static void promise24TheMostCommandsThereCanBe() {
         FreightSplits x = Halls.fullyLoaded();
-        typedInto(x, "go 0;go 1;go 2;go 3;" + "pass 1;".repeat(4) + "pass 01;".repeat(4));
+        Halls.retyped(x, "go 0;go 1;go 2;go 3;" + "pass 1;".repeat(4) + "pass 01;".repeat(4));
         due("length of the text", x.count(12), 80);
         due("play", x.play(), 12);
         due("the time", x.count(2), 8);
@@ -65,7 +60,7 @@ public final class Promise24PlayTest extends Cases {
     }
 
     static void promise24ManyAreOneChange() {
-        FreightSplits x = typedInto(new FreightSplits(), "pass 1;pass 2;pass 3;");
+        FreightSplits x = Halls.retyped(new FreightSplits(), "pass 1;pass 2;pass 3;");
         due("play", x.play(), 3);
         due("states", x.count(11), 1);
         due("the time", x.count(2), 6);
@@ -74,7 +69,7 @@ public final class Promise24PlayTest extends Cases {
     }
 
     static void promise24TheHistoryIsFull() {
-        FreightSplits x = typedInto(Halls.fourStates(), "pass 1;pass 2;pass 3;");
+        FreightSplits x = Halls.retyped(Halls.fourStates(), "pass 1;pass 2;pass 3;");
         due("play", x.play(), 3);
         due("states", x.count(11), 4);
         for (int left = 3; left >= 0; left--) {
@@ -84,7 +79,7 @@ public final class Promise24PlayTest extends Cases {
     }
 
     static void promise24TheTextStays() {
-        FreightSplits x = typedInto(new FreightSplits(), "pass 4;");
+        FreightSplits x = Halls.retyped(new FreightSplits(), "pass 4;");
         x.play();
         due("length of the text", x.count(12), 7);
         due("play again", x.play(), 1);
@@ -92,14 +87,14 @@ public final class Promise24PlayTest extends Cases {
     }
 
     static void promise24ARefusedTextStays() {
-        FreightSplits x = typedInto(new FreightSplits(), "pass 4;x");
+        FreightSplits x = Halls.retyped(new FreightSplits(), "pass 4;x");
         due("play", x.play(), NOT_POSSIBLE);
         due("length of the text", x.count(12), 8);
         due("the time", x.count(2), 0);
     }
 
     static void promise24ItIsAsTheCallsOneByOne() {
-        FreightSplits played = typedInto(Halls.busy(),
+        FreightSplits played = Halls.retyped(Halls.busy(),
                 "load 0 0;fill 1 2 1;offer 2 9 8 70 6;go 0;go 1;split 6 2 3;pass 4;join 8 6;");
         FreightSplits called = Halls.busy();
         called.load(0, 0);
@@ -119,29 +114,22 @@ public final class Promise24PlayTest extends Cases {
     }
 
     static void promise24NumbersWithNoughtsAhead() {
-        FreightSplits x = typedInto(Halls.busy(), "load 007 01;offer 03 009 08 070 006;pass 02;");
+        FreightSplits x = Halls.retyped(Halls.busy(), "load 007 01;offer 03 009 08 070 006;pass 02;");
         due("play", x.play(), 3);
         due("the vehicle", x.consignmentOf(Halls.OTHER, 7), 1);
         due("the time", x.count(2), 5);
-        int last = x.count(10) - 1;
-        int[] values = {3, 9, 8, 70, 9};
-        for (int what = 0; what <= 4; what++) {
-            due("the offer's " + what, x.offerOf(last, what), values[what]);
-        }
+        isOffer(x, x.count(10) - 1, 3, 9, 8, 70, 9);
     }
 
     static void promise24TheGreatestNumbers() {
-        FreightSplits x = typedInto(new FreightSplits(), "offer 4 99 98 999 99;pass 99;");
+        FreightSplits x = Halls.retyped(new FreightSplits(), "offer 4 99 98 999 99;pass 99;");
         due("play", x.play(), 2);
-        int[] values = {4, 99, 98, 999, 99};
-        for (int what = 0; what <= 4; what++) {
-            due("the offer's " + what, x.offerOf(0, what), values[what]);
-        }
+        isOffer(x, 0, 4, 99, 98, 999, 99);
         due("the time", x.count(2), 99);
     }
 
     static void promise24HoursCountFromTheCommandOn() {
-        FreightSplits x = typedInto(Halls.busy(), "pass 6;offer 1 1 1 1 5;");
+        FreightSplits x = Halls.retyped(Halls.busy(), "pass 6;offer 1 1 1 1 5;");
         due("play", x.play(), 2);
         due("the last hour", x.offerOf(x.count(10) - 1, 4), 14);
     }
