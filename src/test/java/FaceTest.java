@@ -10,7 +10,7 @@ import java.util.TreeSet;
 
 /** The public face of the document, and the rules of ../shared/LANGUAGE.md that can be looked up. */
 public final class FaceTest {
-    private static final Map<String, Integer> METHODS = Map.ofEntries(
+    static final Map<String, Integer> METHODS = Map.ofEntries(
             Map.entry("consign", 6), Map.entry("split", 3), Map.entry("join", 2),
             Map.entry("vehicle", 2), Map.entry("load", 2), Map.entry("unload", 1),
             Map.entry("fill", 3), Map.entry("depart", 1), Map.entry("offer", 5),
@@ -19,7 +19,7 @@ public final class FaceTest {
             Map.entry("wouldFill", 3), Map.entry("wouldEarn", 1), Map.entry("hopeless", 0),
             Map.entry("undo", 0), Map.entry("type", 1), Map.entry("clearText", 0),
             Map.entry("fault", 1), Map.entry("play", 0));
-    private static final Map<String, Integer> CONSTANTS = Map.of("INVALID_ARGUMENT", -1000001,
+    static final Map<String, Integer> CONSTANTS = Map.of("INVALID_ARGUMENT", -1000001,
             "NOT_POSSIBLE", -1000002, "LIMIT_REACHED", -1000003, "NOT_FOUND", -1000004);
 
     public static void main(String[] args) throws IllegalAccessException {

@@ -27,6 +27,7 @@ public final class LanguageTest {
         Expect.holds("texts are not joined by +",
                 !Pattern.compile("\"\\s*\\+|\\+\\s*\"").matcher(code).find());
         methodsAreShort(code);
+        objectsAreMadeAtFirst(code);
         Expect.finish();
     }
 
@@ -46,6 +47,19 @@ public final class LanguageTest {
                 end++;
             }
             Expect.holds("at most " + MOST_LINES + " lines: " + line.trim(), end - i < MOST_LINES);
+        }
+    }
+
+    /** No call makes an object: only fields at their places, and constructors, may hold "new". */
+    private static void objectsAreMadeAtFirst(String code) {
+        String opened = "";
+        for (String line : code.split("\n")) {
+            opened = line.matches(" {4,8}\\w.*\\) \\{") ? line : opened;
+            if (line.matches(".*\\bnew\\b.*")) {
+                boolean isField = line.matches("( {4}| {8})(private )?final .*;");
+                boolean isConstructor = opened.matches(" +(public )?[A-Z]\\w*\\(.*");
+                Expect.holds("no call makes an object: " + line.trim(), isField || isConstructor);
+            }
         }
     }
 }
