@@ -12,7 +12,6 @@ import java.util.TreeSet;
 import java.util.regex.Matcher;
 import java.util.regex.Pattern;
 import java.util.stream.Collectors;
-import javax.tools.ToolProvider;
 
 /**
  * Runs README.md's examples as they stand there, and looks whether each call answers what stands
@@ -32,7 +31,7 @@ public final class ReadmeTest {
     private final Set<String> shownMethods = new TreeSet<>();
     private final Set<String> shownConstants = new TreeSet<>();
 
-    public static void main(String[] args) throws IOException, ReflectiveOperationException {
+    public static void main(String[] args) throws Exception {
         List<String> readme = Files.readAllLines(README);
         ReadmeTest test = new ReadmeTest();
         test.readExamples(readme);
@@ -96,14 +95,14 @@ public final class ReadmeTest {
     }
 
     /** The answers by the indices of their lines; none if the program does not compile. */
-    private int[] run() throws IOException, ReflectiveOperationException {
+    private int[] run() throws Exception {
         Path folder = Files.createTempDirectory("readme");
         try {
             Path file = folder.resolve(PROGRAM + ".java");
             Files.writeString(file, program);
-            int failed = ToolProvider.getSystemJavaCompiler().run(null, null, null, "--release", "17",
-                    "-encoding", "UTF-8", "-cp", System.getProperty("java.class.path"),
-                    "-d", folder.toString(), file.toString());
+            int failed = new ProcessBuilder("javac", "--release", "17", "-encoding", "UTF-8",
+                    "-cp", System.getProperty("java.class.path"), "-d", folder.toString(),
+                    file.toString()).inheritIO().start().waitFor();
             Expect.due("compiling the examples", failed, 0);
             if (failed != 0) {
                 return new int[0];
